@@ -254,8 +254,7 @@ public final class HandedWorks {
             return MISSING;
         }
         Matches matches = study.matches;
-        study.look(shelf);
-        matches.find(work, other, shelf.rules[LEAST]);
+        study.compare(shelf, work, other);
         if (k == NONE) {
             return matches.n;
         }
@@ -276,8 +275,7 @@ public final class HandedWorks {
             return MISSING;
         }
         Matches matches = study.matches;
-        study.look(shelf);
-        matches.find(work, other, shelf.rules[LEAST]);
+        study.compare(shelf, work, other);
         matches.linkChain();
         return what == 1 ? matches.chainedMatches() : matches.lettersOf(what == 0);
     }
@@ -1093,8 +1091,6 @@ public final class HandedWorks {
         private static final int MOST = 840;
 
         int n = 0;
-        private final Reading reading;
-        private final Forms forms;
         private final Side one = new Side();
         private final Side two = new Side();
         private final int[] begins = new int[MOST];
@@ -1103,14 +1099,10 @@ public final class HandedWorks {
         private final int[] weights = new int[MOST];
         private final int[] nexts = new int[MOST];
         private final boolean[] chained = new boolean[MOST];
-        private final boolean[] seen = new boolean[ROOM];
+        /** 1: the letter lies in a match that was looked at. */
+        private final int[] seen = new int[ROOM];
 
-        Matches(Reading reading, Forms forms) {
-            this.reading = reading;
-            this.forms = forms;
-        }
-
-        void find(int work, int other, int least) {
+        void find(Reading reading, Forms forms, int work, int other, int least) {
             n = 0;
             one.load(reading, forms, work);
             two.load(reading, forms, other);
@@ -1229,14 +1221,14 @@ public final class HandedWorks {
 
         /** Letters that lie in several matches are one each. */
         private int lettersIn(int[] from) {
-            Arrays.fill(seen, false);
+            Arrays.fill(seen, 0);
             int all = 0;
             for (int m = 0; m < n; m++) {
                 int begin = Math.max(0, pick(from, m));
                 int end = Math.min(ROOM, begin + lengthOf(m));
                 for (int i = begin; i < end; i++) {
-                    all += asNumber(!seen[i]);
-                    seen[i] = true;
+                    all += 1 - seen[i];
+                    seen[i] = 1;
                 }
             }
             return all;
@@ -1267,7 +1259,7 @@ public final class HandedWorks {
                 int length = matches.lengthOf(m);
                 int begin = Math.max(0, matches.beginOf(m));
                 int end = Math.min(letters, begin + length);
-                for (int i = begin; i < end; i++) {
+                for (int i = begin; i < end && i < ROOM; i++) {
                     if (isBetter(length, other, i, days)) {
                         longest[i] = length;
                         sources[i] = other;
@@ -1342,7 +1334,7 @@ public final class HandedWorks {
     private static final class Study {
         final Reading reading = new Reading();
         final Forms forms = new Forms();
-        final Matches matches = new Matches(reading, forms);
+        final Matches matches = new Matches();
         final Spans spans = new Spans();
         /** To which works, as bits, each one is bound. */
         private final int[] bonds = new int[WORKS];
@@ -1356,12 +1348,17 @@ public final class HandedWorks {
             forms.number(reading, shelf.rules);
         }
 
+        void compare(Shelf shelf, int work, int other) {
+            look(shelf);
+            matches.find(reading, forms, work, other, pick(shelf.rules, LEAST));
+        }
+
         void trace(Shelf shelf, int work) {
             look(shelf);
             spans.begin(reading.letterCount(work));
             for (int other = 0; other < WORKS; other++) {
                 if (other != work) {
-                    matches.find(work, other, RULE_LEAST[LEAST]);
+                    matches.find(reading, forms, work, other, RULE_LEAST[LEAST]);
                     spans.offer(matches, other, shelf.days);
                 }
             }
@@ -1402,7 +1399,7 @@ public final class HandedWorks {
             Arrays.fill(bonds, 0);
             for (int work = 0; work < WORKS; work++) {
                 for (int other = work + 1; other < WORKS; other++) {
-                    matches.find(work, other, least);
+                    matches.find(reading, forms, work, other, least);
                     if (isEnough(matches.lettersSeen(), work, limit)
                             || isEnough(matches.otherLettersSeen(), other, limit)) {
                         bonds[work] |= 1 << other;
@@ -1444,7 +1441,7 @@ public final class HandedWorks {
         }
 
         int sizeOf(int sheet) {
-            return isSheet(sheet) ? sizes[sheet] : 0;
+            return sheet >= 0 && sheet < SHEETS ? sizes[sheet] : 0;
         }
 
         void become(int sheet, int sort, int n) {

@@ -114,6 +114,7 @@ public final class LanguageTest {
         while (library.find()) {
             must("library " + library.group(), Set.of("fill", "arraycopy", "min", "max").contains(library.group(2)));
         }
+        must("fill is over numbers", !Pattern.compile("Arrays\\.fill\\([^;]*(true|false)\\)").matcher(code).find());
         must("no text is joined", !source.contains("\""));
     }
 

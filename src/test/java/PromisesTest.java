@@ -484,6 +484,7 @@ public final class PromisesTest {
         due("chain three letters", x.chain(0, 1, 0), 13);
         due("chain three", x.chain(0, 1, 1), 3);
         due("chain three moved", x.chain(0, 1, 2), 0);
+        dueText("chain of three back", matchesOf(x, 1, 0), "0-0x4* 5-4x4* 10-8x5*");
         hand(x, 1, 0, 0, "efghxabcd");
         dueText("chain earliest", matchesOf(x, 0, 1), "0-5x4* 4-0x4");
         dueText("chain earliest back", matchesOf(x, 1, 0), "0-4x4* 5-0x4");
@@ -718,6 +719,12 @@ public final class PromisesTest {
         due("drawn in a hundred", x.drawn(0, 1, 1, 1), 70);
         due("drawn: in thought", x.share(0, 0), 10);
         dueText("drawn: in thought", rawOf(x, 0), "abcdefghij");
+        // z of -1 is 3191464396, below 0 as an int, then 288979989; >>> 9: 6233328, 564414
+        int y = -1103515245 + 12345;
+        due("drawn below 0: byte", (y >>> 9) % 10, 8);
+        y = y * 1103515245 + 12345;
+        due("drawn below 0: by", 97 + (y >>> 9) % 26, 'g');
+        due("drawn below 0", x.drawn(0, -1, 1, 0), 8);
         due("drawn 20", x.drawn(0, LEAST_INT, 20, 0) >= 0 ? 1 : 0, 1);
         due("drawn 21", x.drawn(0, 1, 21, 0), -2);
         due("drawn -1", x.drawn(0, 1, -1, 0), -2);
@@ -786,6 +793,7 @@ public final class PromisesTest {
         due("tells too few", x.tells(1, 0, 0), 0);
         due("tells by 7", x.tells(1, 0, 1), 7);
         due("tells by 8", x.tells(1, 0, 2), 8);
+        leastOfFifty();
         putAll(x, 1, 1, 0, 2, 3, 11);
         due("tells too few at the end", x.tells(1, 0, 0), 4);
         due("tells never, the least", x.tells(1, 0, 1), -1);
@@ -815,6 +823,19 @@ public final class PromisesTest {
         due("tells sheet -1", x.tells(-1, 0, 0), -2);
         due("tells work", x.tells(0, 5, 0), -2);
         due("tells bad before missing", x.tells(2, 4, 3), -2);
+    }
+
+    /** Works that match in 49 letters: a sheet that tells nothing is right by 50 alone. */
+    private static void leastOfFifty() {
+        HandedWorks x = new HandedWorks();
+        String long49 = "abcdefghijklmnopqrstuvwxyzabcdefghijklmnopqrstuvw";
+        hand(x, 0, 0, 0, long49);
+        hand(x, 1, 0, 0, long49 + "y");
+        x.sheet(0, 0, 0);
+        due("tells by fifty alone, the least", x.tells(0, 0, 1), 50);
+        due("tells by fifty alone, the greatest", x.tells(0, 0, 2), 50);
+        putAll(x, 0, 0, 0, 48);
+        due("tells up to 49", x.tells(0, 0, 2), 49);
     }
 
     private static void film() {
@@ -914,10 +935,10 @@ public final class PromisesTest {
         HandedWorks x = new HandedWorks();
         hand(x, 0, 0, 0, "abcd 1");
         hand(x, 3, 0, 0, "bcd2abc");
-        hand(x, 4, 0, 0, "12");
+        hand(x, 4, 0, 0, "1");
         x.feed(3, 0, 0, 0, 0, 0);
         due("count works", x.count(0), 3);
-        due("count raw", x.count(1), 15);
+        due("count raw", x.count(1), 14);
         due("count letters", x.count(2), 10);
         // abc bcd: the window of two picks 0; bcd cda dab abc: windows pick 0, 1, 3
         due("count prints", x.count(3), 4);
@@ -927,7 +948,7 @@ public final class PromisesTest {
         due("count -1", x.count(-1), -2);
         due("count far", x.count(MOST_INT), -2);
         x.drop(3);
-        due("count raw then", x.count(1), 8);
+        due("count raw then", x.count(1), 7);
         due("count letters then", x.count(2), 4);
         due("count prints then", x.count(3), 1);
         due("count grams then", x.count(4), 2);
