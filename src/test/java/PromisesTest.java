@@ -1,85 +1,5 @@
 /** Each promise by hand: ordinary calls, the edges that the document names, wrong numbers. */
-public final class PromisesTest {
-    private static final int LEAST_INT = Integer.MIN_VALUE;
-    private static final int MOST_INT = Integer.MAX_VALUE;
-    private static final long NO = -4611686018427387904L;
-    private static int wrong = 0;
-    private static int asked = 0;
-
-    private static void due(String told, long got, long want) {
-        asked++;
-        if (got != want) {
-            wrong++;
-            System.out.println(told + " answered " + got + ", due is " + want);
-        }
-    }
-
-    private static void tape(HandedWorks x, String text) {
-        for (int i = 0; i < text.length(); i += 5) {
-            int[] v = new int[5];
-            int n = Math.min(5, text.length() - i);
-            for (int t = 0; t < n; t++) {
-                v[t] = text.charAt(i + t);
-            }
-            x.feed(n, v[0], v[1], v[2], v[3], v[4]);
-        }
-    }
-
-    private static void hand(HandedWorks x, int work, int kind, int day, String text) {
-        tape(x, text);
-        due("hand " + text, x.work(work, kind, day), text.length());
-    }
-
-    private static String rawOf(HandedWorks x, int work) {
-        StringBuilder b = new StringBuilder();
-        for (int i = 0; i < x.raw(work, -1); i++) {
-            b.append((char) x.raw(work, i));
-        }
-        return b.toString();
-    }
-
-    private static String lettersOf(HandedWorks x, int work) {
-        StringBuilder b = new StringBuilder();
-        for (int i = 0; i < x.letter(work, -1, 0); i++) {
-            b.append((char) x.letter(work, i, 0));
-        }
-        return b.toString();
-    }
-
-    private static String printsOf(HandedWorks x, int work) {
-        StringBuilder b = new StringBuilder();
-        for (int k = 0; k < x.print(work, -1, 0); k++) {
-            b.append(x.print(work, k, 0)).append(' ');
-        }
-        return b.toString().trim();
-    }
-
-    private static String matchesOf(HandedWorks x, int a, int b) {
-        StringBuilder t = new StringBuilder();
-        for (int k = 0; k < x.match(a, b, -1, 0); k++) {
-            t.append(x.match(a, b, k, 0)).append('-').append(x.match(a, b, k, 1)).append('x')
-                .append(x.match(a, b, k, 2)).append(x.match(a, b, k, 3) == 1 ? "* " : " ");
-        }
-        return t.toString().trim();
-    }
-
-    private static String spansOf(HandedWorks x, int work) {
-        StringBuilder t = new StringBuilder();
-        for (int k = 0; k < x.span(work, -1, 0); k++) {
-            t.append(x.span(work, k, 0)).append("..").append(x.span(work, k, 1)).append('=')
-                .append(x.span(work, k, 2)).append(' ');
-        }
-        return t.toString().trim();
-    }
-
-    private static void dueText(String told, String got, String want) {
-        asked++;
-        if (!got.equals(want)) {
-            wrong++;
-            System.out.println(told + " answered <" + got + ">, due is <" + want + ">");
-        }
-    }
-
+public final class PromisesTest extends Asking {
     private static void newObject() {
         HandedWorks x = new HandedWorks();
         for (int what = 0; what < 6; what++) {
@@ -774,13 +694,6 @@ public final class PromisesTest {
         due("chance work", x.chance(5, 1, 1, 0, 0), -2);
         due("chance bad before missing", x.chance(2, 1, 4, 0, 0), -2);
         due("chance missing", x.chance(2, 1, 1, 0, 0), -11);
-    }
-
-    private static void putAll(HandedWorks x, int sheet, int sort, int... row) {
-        x.sheet(sheet, sort, row.length);
-        for (int i = 0; i < row.length; i++) {
-            x.put(sheet, i, row[i]);
-        }
     }
 
     private static void tells() {
