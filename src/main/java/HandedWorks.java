@@ -1034,7 +1034,7 @@ public final class HandedWorks {
             }
             lastWorks[form] = work;
             works[form]++;
-            based[form] |= work == base;
+            based[form] = based[form] || work == base;
         }
 
         int worksWith(int form) {
@@ -1125,7 +1125,7 @@ public final class HandedWorks {
             int length = 0;
             while (length < room && pick(one.letters, i + length) == pick(two.letters, j + length)) {
                 int anchor = pick(one.anchors, i + length);
-                anchored |= anchor != NONE && anchor == pick(two.anchors, j + length);
+                anchored = anchored || anchor != NONE && anchor == pick(two.anchors, j + length);
                 length++;
             }
             if (anchored && length >= least && n >= 0 && n < MOST) {

@@ -116,6 +116,9 @@ public final class LanguageTest {
         }
         must("fill is over numbers", !Pattern.compile("Arrays\\.fill\\([^;]*(true|false)\\)").matcher(code).find());
         must("no text is joined", !source.contains("\""));
+        must("yes and no are joined by && and || alone", !Pattern.compile("[|&^]=[^;]*([=!<>]=|&&|\\|\\||\\b(true|false)\\b)").matcher(code).find());
+        must("no static block", !Pattern.compile("\\bstatic\\s*\\{").matcher(code).find());
+        must("no loop without an end", !Pattern.compile("for \\([^;]*;\\s*;|while \\(true").matcher(code).find());
     }
 
     /** Where two methods of one name stand, they are taken as one: the depth told is no less than the true one. */
@@ -131,6 +134,7 @@ public final class LanguageTest {
             String body = code.substring(m.end(), end);
             must("short: " + m.group(3), body.split("\n").length <= 60);
             must("seven parameters: " + m.group(3), m.group(4).split(",").length <= 7);
+            must("makes no object: " + m.group(3), m.group(3).equals("HandedWorks") || !Pattern.compile("\\bnew\\b").matcher(body).find());
             bodies.merge(m.group(3), body, String::concat);
         }
         for (String name : bodies.keySet()) {
